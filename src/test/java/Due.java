@@ -4,6 +4,8 @@ final class Due {
         Object run();
     }
 
+    private static final int MOST_TOLD = 20;
+
     private final String name;
     private int checks;
     private int wrong;
@@ -16,7 +18,7 @@ final class Due {
         checks++;
         if (!want.equals(got)) {
             wrong++;
-            System.out.println(name + ": " + what + " answered " + got + ", due is " + want);
+            tell(what + " answered " + got + ", due is " + want);
         }
     }
 
@@ -33,7 +35,14 @@ final class Due {
             got = "threw " + e;
         }
         wrong++;
-        System.out.println(name + ": " + what + " " + got + ", due is " + want.getSimpleName());
+        tell(what + " " + got + ", due is " + want.getSimpleName());
+    }
+
+    /** A fault in the ground of all would fill the screen: the first ones say enough. */
+    private void tell(String text) {
+        if (wrong <= MOST_TOLD) {
+            System.out.println(name + ": " + text);
+        }
     }
 
     void close() {
