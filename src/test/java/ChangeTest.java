@@ -21,6 +21,8 @@ public final class ChangeTest {
         test.movesMappedFrames();
         test.movesOnlyAllTogether();
         test.movesBackToTheLowest();
+        test.movesBackToTheFirst();
+        test.movesFullThreads();
         test.leavesOldCode();
         test.framesOfOtherVersionsDoNotCount();
         test.framesLeftCountAgain();
@@ -304,6 +306,41 @@ public final class ChangeTest {
         due.same("moved back", 1002, x.at(1, 0));
         due.same("what was left stays", 1001, x.at(0, 0));
         due.same("present", 1, x.present());
+    }
+
+    private void movesBackToTheFirst() {
+        SwapWhile x = Told.machine("w", "w");
+        Told.replace(x, 0, "k 1 1", "w");
+        x.map(0, 0, 0);
+        x.map(0, 1, 0);
+        x.publish();
+        Told.go(x);
+        x.start(0, 0);
+        x.change('m', true, false, 200);
+        due.same("moved back to the first place of all", 1000, x.at(0, 0));
+    }
+
+    private void movesFullThreads() {
+        SwapWhile x = Told.machine("c 0 0 0", "k 0 1");
+        Told.replace(x, 0, "c 0 0 0", "k 0 2");
+        x.map(0, 0, 0);
+        x.map(0, 1, 2);
+        x.publish();
+        for (int thread = 0; thread < 3; thread++) {
+            x.start(thread, 0);
+            x.step(thread, 7);
+        }
+        x.change('w', false, false, 1);
+        due.same("all frames stand against it", 24, x.against());
+        x.step(0, 1);
+        due.same("frames of the others stand against it", "d", "" + x.changed(1));
+        x.change('m', false, false, 1);
+        due.same("present", 2, x.present());
+        for (int thread = 1; thread < 3; thread++) {
+            for (int frame = 0; frame < 8; frame++) {
+                due.same("moved", frame < 7 ? 2002 : 2000, x.at(thread, frame));
+            }
+        }
     }
 
     private void leavesOldCode() {

@@ -25,6 +25,8 @@ public final class DraftTest {
         test.published();
         test.publishedMappings();
         test.touched();
+        test.touchedByMeaningAlone();
+        test.touchedByNothingBeyondTheEnd();
         test.touchedByKinds();
         test.touchedRefuses();
         test.due.close();
@@ -278,6 +280,16 @@ public final class DraftTest {
         due.same("behind refusals", -1, x.setCarry(2, true, 0, 0, 0));
         x.publish();
         due.same("a draft begins as at first", 0, x.setCarry(2, true, 0, 0, 0));
+        for (int kind = 0; kind < 3; kind++) {
+            x.setFields(kind, 4);
+        }
+        x.publish();
+        for (int kind = 0; kind < 3; kind++) {
+            for (int field = 0; field < 4; field++) {
+                due.same("forward at first", field, x.setCarry(kind, false, field, -1, 0));
+                due.same("back at first", field, x.setCarry(kind, true, field, -1, 0));
+            }
+        }
     }
 
     private void carrySetByShapes() {
@@ -351,15 +363,17 @@ public final class DraftTest {
     private void publishedMappings() {
         SwapWhile x = Told.machine("k 0 1", "w", "k 0 2", "w");
         Told.replace(x, 0, "k 0 3", "w", "o 0", "w");
+        x.map(0, 0, 4);
         x.map(0, 2, 3);
         x.map(0, 4, 2);
         Told.replace(x, 0, "k 0 3", "w");
         x.publish();
         due.same("a new draft has no mappings", 1, x.map(0, 1, 0));
         x.start(0, 0);
-        x.step(0, 2);
         x.change('m', false, false, 200);
         due.same("mapped beyond the number of instructions", 1, x.against());
+        x.step(0, 2);
+        due.same("mapped beyond it, at another place", 1, x.against());
         x.release(0);
         x.step(0, 1);
         due.same("at a place that was never mapped", 1, x.against());
@@ -391,12 +405,51 @@ public final class DraftTest {
         tellsTouched(x, 1, true, true, false, true, false);
         tellsTouched(x, 2, true, true, true, true, false);
         tellsTouched(x, 3, false, false, false, false, false);
-        SwapWhile y = new SwapWhile();
-        Told.add(y, 0, "k 0 1 5", "w 1 2 3");
-        y.publish();
-        Told.replace(y, 0, "k 0 1 6", "w 3 2 1");
-        y.publish();
-        due.same("numbers without a meaning", false, y.isTouched(1, 0));
+    }
+
+    private void touchedByMeaningAlone() {
+        SwapWhile x = new SwapWhile();
+        Told.add(x, 0, "k 0 1 5", "a 1 1 5", "n 1 1 5", "j 1 1 5", "s 1 1 5");
+        Told.add(x, 1, "r 1 5 5", "o 1 5 5", "w 5 5 5");
+        x.publish();
+        Told.replace(x, 0, "k 0 1 6", "a 1 1 6", "n 1 1 6", "j 1 1 6", "s 1 1 6");
+        Told.replace(x, 1, "r 1 6 7", "o 1 6 7", "w 6 7 8");
+        x.publish();
+        tellsTouched(x, 1, false, false);
+        String[] told = {"k 0 1", "a 0 1", "n 0 1", "g 0 1 2", "p 0 1 2", "j 0 1", "c 0 1 2", "t 0 1 2", "s 0 1",
+            "r 0", "o 0", "w"};
+        String[] others = {"k 1 1", "k 0 2", "a 1 1", "a 0 2", "n 1 1", "n 0 2", "g 1 1 2", "g 0 2 2", "g 0 1 3",
+            "p 1 1 2", "p 0 2 2", "p 0 1 3", "j 1 1", "j 0 2", "c 1 1 2", "c 0 2 2", "c 0 1 3", "t 1 1 2",
+            "t 0 2 2", "t 0 1 3", "s 1 1", "s 0 2", "r 1", "o 1", "w"};
+        for (String one : told) {
+            for (String other : others) {
+                touches(one, one, false);
+                touches(one, other, !one.equals(other));
+            }
+        }
+    }
+
+    private void touches(String one, String other, boolean want) {
+        SwapWhile x = Told.machine("w", one, "w");
+        Told.replace(x, 0, "w", other, "w");
+        x.publish();
+        due.same("touched by " + one + " and " + other, want, x.isTouched(1, 0));
+    }
+
+    private void touchedByNothingBeyondTheEnd() {
+        SwapWhile x = new SwapWhile();
+        Told.add(x, 0, "k 0 1", "o 0");
+        Told.add(x, 1, "w", "n 0 1");
+        x.publish();
+        Told.replace(x, 0, "k 0 1");
+        Told.replace(x, 1, "w");
+        x.publish();
+        Told.replace(x, 0, "k 0 1", "r 0");
+        Told.replace(x, 0, "k 0 1");
+        x.setFields(1, 2);
+        x.publish();
+        tellsTouched(x, 1, true, true);
+        tellsTouched(x, 2, false, false);
     }
 
     private void tellsTouched(SwapWhile x, int version, boolean... want) {
@@ -409,7 +462,7 @@ public final class DraftTest {
         SwapWhile x = new SwapWhile();
         Told.add(x, 0, "w", "n 1 1");
         Told.add(x, 1, "w", "g 0 10 0");
-        Told.add(x, 2, "w", "p 2 13 0");
+        Told.add(x, 2, "p 2 13 0", "w");
         Told.add(x, 3, "n 1 0", "g 0 20 0", "p 0 3 0");
         Told.add(x, 4, "k 1 1", "a 1 1", "j 1 1", "c 1 1 1", "t 1 1 1", "s 1 1", "r 1", "o 1");
         x.publish();

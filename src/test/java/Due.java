@@ -22,20 +22,27 @@ final class Due {
         }
     }
 
-    /** The exception's very class counts: a subclass of it is the machine's own. */
+    /** The exception's very class counts, and that the class threw it itself, not the library within. */
     void fails(String what, Class<? extends RuntimeException> want, Call call) {
         checks++;
         String got;
         try {
             got = "answered " + call.run();
         } catch (RuntimeException e) {
-            if (e.getClass() == want) {
+            if (e.getClass() == want && isThrownHere(e)) {
                 return;
             }
             got = "threw " + e;
         }
         wrong++;
         tell(what + " " + got + ", due is " + want.getSimpleName());
+    }
+
+    /** What the Java machine or the library throws has another place, or another text. */
+    static boolean isThrownHere(Throwable e) {
+        StackTraceElement[] trace = e.getStackTrace();
+        return trace.length > 0 && trace[0].getClassName().startsWith("SwapWhile")
+                && !"/ by zero".equals(e.getMessage());
     }
 
     /** A fault in the ground of all would fill the screen: the first ones say enough. */

@@ -193,7 +193,9 @@ public final class RandomRunsTest {
         try {
             return String.valueOf(method.invoke(object, arguments));
         } catch (InvocationTargetException e) {
-            return "throws " + e.getCause().getClass().getSimpleName();
+            Throwable cause = e.getCause();
+            boolean isOwn = object instanceof Model || Due.isThrownHere(cause);
+            return (isOwn ? "throws " : "is hit by ") + cause.getClass().getSimpleName();
         } catch (IllegalAccessException e) {
             return "cannot be called";
         }
