@@ -24,7 +24,6 @@ public final class SwapWhile {
     // Answers are promised for so many calls: what is kept is bounded by them, and refused beyond.
     private static final int MOST_CALLS = 512;
     private static final int MOST_AMOUNTS = MOST_CALLS * MOST_STEPS;
-    private static final int MOST_KEPT_CHANGES = MOST_CHANGES + MOST_CALLS;
     private static final int AMOUNTS_AT_FIRST = 16;
 
     // An instruction lies in a row as its kind and its three numbers.
@@ -582,7 +581,8 @@ public final class SwapWhile {
             return;
         }
         hasWatch = false;
-        if (current > 0 && asked.size() < MOST_KEPT_CHANGES) {
+        // These are bounded too: each leads back from where one of the changes of a call led to.
+        if (current > 0) {
             Change change = new Change(LEAVES, true, false, stepsMade + WATCH_PATIENCE);
             asked.add(change);
             queue.add(0, change);
