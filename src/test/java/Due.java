@@ -38,6 +38,16 @@ final class Due {
         tell(what + " " + got + ", due is " + want.getSimpleName());
     }
 
+    void works(String what, Call call) {
+        checks++;
+        try {
+            call.run();
+        } catch (RuntimeException e) {
+            wrong++;
+            tell(what + " threw " + e + ", due is an answer");
+        }
+    }
+
     /** What the Java machine or the library throws has another place, or another text. */
     static boolean isThrownHere(Throwable e) {
         StackTraceElement[] trace = e.getStackTrace();
