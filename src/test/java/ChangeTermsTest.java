@@ -26,6 +26,8 @@ public final class ChangeTermsTest {
         takesEffectBehindEachCall();
         oneBehindTheOther();
         noVersionToLeadTo();
+        noVersionWithFramesOpen();
+        toVersionZeroAndOn();
         noVersionWhenItIsLookedAt();
         touchedByInstructions();
         touchedByNumbersOfFields();
@@ -176,6 +178,66 @@ public final class ChangeTermsTest {
         }
     }
 
+    /** That holds with frames in functions that were touched by the change to the latest version, too. */
+    private void noVersionWithFramesOpen() {
+        for (char mode : MODES) {
+            SwapWhile x = Told.machine("w");
+            Told.replace(x, 0, "k 0 1", "w");
+            Told.publishAndGo(x);
+            x.start(0, 0);
+            x.change(mode, false, false, 200);
+            due.same("from the latest", 'd', x.changed(2));
+            due.fails("against", EMPTY, x::against);
+            SwapWhile y = new SwapWhile();
+            y.start(0, 0);
+            y.change(mode, true, false, 200);
+            due.same("back from the version 0", 'd', y.changed(0));
+            due.same("at", 0, y.at(0, 0));
+        }
+    }
+
+    /** A change back to the version 0, which is without instructions, and on from it, is one like any other. */
+    private void toVersionZeroAndOn() {
+        for (char mode : MODES) {
+            SwapWhile x = Told.machine("k 0 1", "w");
+            x.start(0, 0);
+            x.start(1, 4);
+            x.change(mode, true, false, 200);
+            if (mode == 'o') {
+                due.same("present", 0, x.present());
+                due.same("it is left", 1000, x.at(0, 0));
+                continue;
+            }
+            due.same("a function with instructions is touched", 1, x.against());
+            due.same("present", 1, x.present());
+            x.step(0, 2);
+            x.release(0);
+            due.same("still", 1, x.against());
+            x.step(0, 1);
+            due.same("behind its end", 0, x.present());
+            due.same("one without instructions goes along", 400, x.at(1, 0));
+            x.start(0, 0);
+            x.change(mode, false, false, 200);
+            due.same("a frame of the version 0 stands against it", 1, x.against());
+            x.step(0, 1);
+            due.same("behind its end", 1, x.present());
+            due.same("one without instructions goes along", 1400, x.at(1, 0));
+        }
+        SwapWhile y = new SwapWhile();
+        Told.add(y, 0, "w", "w", "w");
+        y.map(0, 0, 3);
+        y.publish();
+        y.start(0, 0);
+        y.change('m', false, false, 200);
+        due.same("moved from the only place of the version 0", 1003, y.at(0, 0));
+        y.change('m', true, false, 200);
+        due.same("moved back to it", 0, y.at(0, 0));
+        Told.go(y);
+        y.start(1, 0);
+        y.change('m', true, false, 200);
+        due.same("a place to which none is mapped", 1, y.against());
+    }
+
     private void noVersionWhenItIsLookedAt() {
         SwapWhile x = blocked();
         x.change('w', false, false, 200);
@@ -202,7 +264,7 @@ public final class ChangeTermsTest {
         due.same("present", 0, z.present());
     }
 
-    /** A function is touched by a change if its instructions differ in both versions. */
+    /** A function is touched if its instructions differ in both versions; numbers without a meaning are none of them. */
     private void touchedByInstructions() {
         touched(false, "k 1 5;w", "k 1 5;w");
         touched(true, "k 1 5;w", "k 1 6;w");
@@ -214,6 +276,9 @@ public final class ChangeTermsTest {
         touched(true, "c 1 2 3", "t 1 2 3");
         touched(true, "g 0 0 0", "p 0 0 0");
         touched(true, "g 0 0 0", "g 0 0 1");
+        touched(false, "k 0 1 2", "k 0 1 3");
+        touched(false, "a 0 1 2;n 0 1 2;j 0 1 2;s 0 1 2", "a 0 1 3;n 0 1 3;j 0 1 3;s 0 1 3");
+        touched(false, "r 0 1 2;o 0 1 2;w 0 1 2", "r 0 3 4;o 0 3 4;w 5 3 4");
     }
 
     private void touched(boolean want, String one, String other) {
@@ -247,6 +312,7 @@ public final class ChangeTermsTest {
                     Told.add(x, 2, "w", "w", "w", "w", "w", "w", "w", "w", "w", "p 0 " + (10 * kind + 3) + " 0");
                     int other = (kind + 1) % 3;
                     Told.add(x, 3, "n 0 " + other, "g 0 " + 10 * other + " 0", "p 3 " + 10 * other + " 3");
+                    Told.add(x, 4, "k 0 1", "a 0 1", "j 0 1", "c 0 1 2", "t 0 1 2", "s 0 1", "r 0", "o 0", "w");
                     x.publish();
                     x.setFields(kind, drafted);
                     x.publish();
@@ -254,7 +320,7 @@ public final class ChangeTermsTest {
                         due.same("fields " + ahead + " and " + drafted, ahead != drafted, x.isTouched(1, function));
                     }
                     due.same("another kind", false, x.isTouched(1, 3));
-                    due.same("no instruction", false, x.isTouched(1, 4));
+                    due.same("no instruction that uses objects", false, x.isTouched(1, 4));
                 }
             }
         }
@@ -609,19 +675,24 @@ public final class ChangeTermsTest {
 
     /** Mappings to places that are beyond the number of instructions are gone. */
     private void mappingsBeyondAreGone() {
-        for (int left = 0; left <= 4; left++) {
-            SwapWhile x = Told.machine("k 0 1", "k 0 1", "k 0 1", "k 0 1");
-            Told.replace(x, 0, "k 0 2", "k 0 2", "k 0 2", "k 0 2");
-            x.map(0, 1, 2);
-            x.empty(0);
-            for (int i = 0; i < left; i++) {
-                Told.add(x, 0, "k 0 3");
+        for (int place = 0; place <= 10; place++) {
+            for (int left = 0; left <= 9; left++) {
+                SwapWhile x = new SwapWhile();
+                addConstants(x, 1);
+                Told.publishAndGo(x);
+                x.empty(0);
+                addConstants(x, 2);
+                x.map(0, place, 5);
+                x.empty(0);
+                for (int i = 0; i < left; i++) {
+                    x.add(0, 'k', 0, 3, 0);
+                }
+                x.publish();
+                toPlace(x, 0, place);
+                x.change('m', false, false, 200);
+                due.same("with " + left + " left", left >= 5 ? 2005 : 1000 + place, x.at(0, 0));
+                due.same("queued", left >= 5 ? 0 : 1, x.queued());
             }
-            x.publish();
-            toPlace(x, 0, 1);
-            x.change('m', false, false, 200);
-            due.same("with " + left + " left", left >= 2 ? 2002 : 1001, x.at(0, 0));
-            due.same("queued", left >= 2 ? 0 : 1, x.queued());
         }
     }
 
