@@ -55,6 +55,11 @@ final class Due {
                 && !"/ by zero".equals(e.getMessage());
     }
 
+    /** An answer as a page shows it. */
+    static String asWritten(Object answer) {
+        return answer instanceof Character ? "'" + answer + "'" : String.valueOf(answer);
+    }
+
     /** A fault in the ground of all would fill the screen: the first ones say enough. */
     private void tell(String text) {
         if (wrong <= MOST_TOLD) {
